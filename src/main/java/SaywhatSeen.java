@@ -888,7 +888,8 @@ public final class SaywhatSeen {
                 return;
             }
             ends[set] = NONE;
-            for (int fact = 0; fact < MOST_FACTS; fact++) {
+            boolean haveTexts = (set & ~texted) == 0;
+            for (int fact = 0; haveTexts && fact < MOST_FACTS; fact++) {
                 int rest = set & ~(1 << fact);
                 int restEnd = rest == set ? NONE : endOf(rest);
                 int start = restEnd == NONE ? NONE : startBehind(fact, rest, restEnd);

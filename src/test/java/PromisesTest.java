@@ -29,6 +29,7 @@ public final class PromisesTest {
         p16CanStart();
         p17FirstStart();
         p18PlanSets();
+        p18PlanEnds();
         p18PlanTies();
         p18PlanWays();
         p18PlanVersions();
@@ -284,12 +285,23 @@ public final class PromisesTest {
         due("11 not lost", x.told(0), '-');
         due("11 its mark is gone", x.mark(0, 0, 5), -1);
         x.tick(2);
-        fails("11 no breath yet", UNSUPPORTED, () -> x.cue(2));
+        fails("11 no breath yet, from its going", UNSUPPORTED, () -> x.cue(2));
         due("11 nothing under way", x.tick(1), 0);
         due("11 free to cue", x.cue(2), 10);
         due("11 free number", x.fact(0, 9, 5, 0, true), 1);
         due("11 a new one names none", x.names(1, -1), -1);
         due("11 a new one is of no thing", x.thing(1, -1, 0), -1);
+        SaywhatSeen told = withFacts(3);
+        told.live();
+        told.cue(1);
+        told.tick(10);
+        told.mark(0, 5, 1);
+        told.mark(2, 0, 2);
+        told.drop(1);
+        told.fact(0, 9, 5, 0, true);
+        due("11 what became of it is gone", told.told(1), '-');
+        due("11 a mark of the one ahead stays", told.mark(0, 5, 1), 1);
+        due("11 a mark of the one behind stays", told.mark(2, 0, 2), 2);
     }
 
     private static void p12Names() {
@@ -394,6 +406,8 @@ public final class PromisesTest {
         x.named(2, 300);
         due("16 just named", x.canStart(1, 0, 300), true);
         due("16 named later", x.canStart(1, 0, 299), false);
+        x.names(1, 0);
+        due("16 the person 0 is not named", x.canStart(1, 0, 300), false);
         fails("16 no version", ELEMENT, () -> x.canStart(0, 1, 30));
         fails("16 version below", ELEMENT, () -> x.canStart(0, -1, 30));
         fails("16 no fact", INDEX, () -> x.canStart(2, 1, 30));
@@ -416,6 +430,7 @@ public final class PromisesTest {
         due("17 behind sounds", x.firstStart(0, 0, 0), 86);
         x.sound('g', 90, 91);
         fails("17 no room", ELEMENT, () -> x.firstStart(0, 0, 0));
+        fails("17 none from the last tick of the film", ELEMENT, () -> x.firstStart(0, 0, 600));
         fails("17 no version", ELEMENT, () -> x.firstStart(0, 1, 0));
         fails("17 no fact", INDEX, () -> x.firstStart(1, 1, 0));
         SaywhatSeen many = manyGaps();
@@ -446,6 +461,24 @@ public final class PromisesTest {
         due("18 all ten", all.plan(), 10);
         due("18 the last of ten", all.start(0), 117);
         due("18 the first of ten", all.planned(0), 9);
+    }
+
+    private static void p18PlanEnds() {
+        for (int end = 895; end <= 900; end++) {
+            SaywhatSeen x = new SaywhatSeen();
+            x.film(900);
+            x.fact(end - 10, end, 9, 0, true);
+            x.version(0, 4);
+            x.fact(0, 900, 5, 0, false);
+            x.version(1, 80);
+            x.sound('g', 0, end - 9);
+            due("18 one at the end of the film", x.plan(), 1);
+            due("18 the start of that", x.start(0), end - 10);
+            x.fact(end - 2, 900, 5, 0, false);
+            x.version(2, 1);
+            x.voice(9, 3);
+            due("18 one more behind it, if there is room", x.plan(), end - 5 + 3 + 2 <= 900 ? 2 : 1);
+        }
     }
 
     private static void p18PlanTies() {
@@ -702,6 +735,7 @@ public final class PromisesTest {
         x.named(3, 89);
         x.cut(80, 10);
         due("25 named where the film ends", x.named(3, -1), 80);
+        due("25 named at the first tick", x.named(0, -1), 0);
         due("25 never stays never", x.named(3, -1), -1);
         due("25 all but one", x.cut(1, 79), 3);
     }
@@ -750,6 +784,7 @@ public final class PromisesTest {
         x.sound('s', 10, 21);
         x.sound('s', 20, 30);
         x.named(0, 19);
+        x.named(9, 99);
         x.named(1, 20);
         x.fact(10, 20, 5, 0, true);
         x.fact(20, 40, 5, 0, true);
@@ -763,8 +798,12 @@ public final class PromisesTest {
         due("26 the figures then", x.checksum(), sums(10, 20, 10, 28, 27, 37, 0, 27, 1, 47, 2, 19, 107));
         due("26 named ahead", x.named(0, 0), 19);
         due("26 named then", x.named(1, 0), 27);
+        due("26 named behind", x.named(9, 0), 106);
         x.version(1, 1);
-        due("26 seen later", x.firstStart(1, 0, 0), 37);
+        x.unsound();
+        due("26 seen later", x.firstStart(1, 0, 0), 28);
+        x.sound('s', 27, 37);
+        due("26 not within a sound that came later", x.firstStart(1, 0, 0), 37);
         due("26 never stays never", x.named(2, -1), -1);
         due("26 at the end, to the most", x.insert(107, 793), 900);
         fails("26 full", ARGUMENT, () -> x.insert(0, 1));
@@ -791,6 +830,7 @@ public final class PromisesTest {
         SaywhatSeen x = withFacts(2);
         x.sound('s', 5, 9);
         x.named(1, 50);
+        x.named(0, 7);
         x.names(0, 1);
         x.thing(0, 2, 3);
         long before = x.checksum();
@@ -802,6 +842,7 @@ public final class PromisesTest {
         due("28 facts", x.use(0), 2);
         due("28 figures", x.checksum(), before);
         due("28 name", x.named(1, 50), 50);
+        due("28 the name of the person 0", x.named(0, 7), 7);
         due("28 person", x.names(0, 1), 1);
         due("28 thing", x.thing(0, 2, 3), 2);
         fails("28 versions", ELEMENT, () -> x.ticks(0, 1));
@@ -858,10 +899,12 @@ public final class PromisesTest {
         x.cue(0);
         x.tick(10);
         x.call(3);
+        x.call(0);
         x.speak(true);
         due("29 another stage", x.live(), 2);
         due("29 nothing told", x.told(0), '-');
         due("29 nobody named", x.call(3), false);
+        due("29 not the person 0 either", x.call(0), false);
         due("29 nobody speaks", x.speak(false), false);
         due("29 no breath to wait for", x.cue(0), 10);
         due("29 in place of one with a text under way", x.live(), 2);
@@ -929,6 +972,9 @@ public final class PromisesTest {
         fails("32 told", UNSUPPORTED, () -> x.cue(0));
         fails("32 not named on the stage", UNSUPPORTED, () -> x.cue(1));
         x.call(5);
+        x.names(1, 0);
+        fails("32 the person 0 is not named", UNSUPPORTED, () -> x.cue(1));
+        x.names(1, 5);
         due("32 named", x.cue(1), 5);
         x.tick(10);
         x.voice(4, 6);
@@ -1015,6 +1061,9 @@ public final class PromisesTest {
         due("36 cut", x.review(0), 333);
         x.mark(0, 4, 10);
         due("36 of six", x.review(0), 475);
+        x.mark(1, 0, 5);
+        x.mark(0, 5, 1);
+        fails("36 two of the next fact", ELEMENT, () -> x.review(1));
         fails("36 no fact", INDEX, () -> x.review(2));
         fails("36 below", INDEX, () -> x.review(-1));
         SaywhatSeen like = withFacts(1);
