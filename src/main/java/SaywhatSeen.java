@@ -167,8 +167,12 @@ public final class SaywhatSeen {
 
     public int thing(int fact, int thing, int term) throws IndexOutOfBoundsException, IllegalArgumentException {
         Fact found = existing(fact);
-        if (thing < NONE || thing >= THINGS || term < 0 || term >= TERMS) {
-            throw new IllegalArgumentException("out of range");
+        if (thing < NONE || thing >= THINGS) {
+            throw new IllegalArgumentException("no such thing");
+        }
+        // Without a thing the term has no meaning, so then no number is out of its range.
+        if (thing != NONE && (term < 0 || term >= TERMS)) {
+            throw new IllegalArgumentException("no such term");
         }
         int before = found.thing;
         found.thing = thing;

@@ -338,6 +338,43 @@ public final class PromisesTest {
         fails("13 term beyond", ARGUMENT, () -> x.thing(0, 0, 10));
         fails("13 no fact", INDEX, () -> x.thing(2, 10, 0));
         due("13 nothing changed", x.thing(0, -1, 0), 0);
+        p13NoThing();
+    }
+
+    /** Without a thing a term has no meaning: whatever it is, the call goes through. */
+    private static void p13NoThing() {
+        for (int term : new int[] {-1, 10, 0, 9, Integer.MIN_VALUE, Integer.MAX_VALUE}) {
+            SaywhatSeen x = withFacts(2);
+            due("13 none before, term " + term, x.thing(0, -1, term), -1);
+            due("13 none still, term " + term, x.thing(0, 3, 1), -1);
+            x.thing(1, 3, 2);
+            due("13 unlike ahead of term " + term, x.canTell(3), false);
+            x.plan();
+            due("13 none any more, term " + term, x.thing(0, -1, term), 3);
+            fails("13 no plan behind term " + term, STATE, () -> x.weight());
+            due("13 like behind term " + term, x.canTell(3), true);
+            x.thing(1, -1, term);
+            due("13 no terms, term " + term, x.canTell(3), true);
+            fails("13 no fact, term " + term, INDEX, () -> x.thing(2, -1, term));
+            fails("13 not none, term " + term, ARGUMENT, () -> x.thing(0, -2, term));
+            due("13 a thing behind term " + term, x.thing(0, 3, 2), -1);
+            due("13 its term behind term " + term, x.thing(1, 3, 2) == -1 && x.canTell(3), true);
+            due("13 kept in an edition, term " + term, keptWithout(term), -1);
+        }
+        SaywhatSeen y = withFacts(1);
+        y.thing(0, 4, 5);
+        fails("13 lowest term of a thing", ARGUMENT, () -> y.thing(0, 9, Integer.MIN_VALUE));
+        fails("13 greatest term of a thing", ARGUMENT, () -> y.thing(0, 0, Integer.MAX_VALUE));
+        due("13 the thing stays", y.thing(0, -1, -1), 4);
+    }
+
+    private static int keptWithout(int term) {
+        SaywhatSeen x = withFacts(1);
+        x.thing(0, -1, term);
+        x.edition();
+        x.thing(0, 1, 1);
+        x.use(0);
+        return x.thing(0, 1, 1);
     }
 
     private static void p14Version() {

@@ -237,7 +237,7 @@ final class SlowModel {
 
     int thing(int fact, int thing, int term) {
         Seen s = seen(fact);
-        require(thing >= -1 && thing <= 9 && term >= 0 && term <= 9);
+        require(thing == -1 || thing >= 0 && thing <= 9 && term >= 0 && term <= 9);
         int before = s.thing;
         s.thing = thing;
         s.term = term;
