@@ -1,7 +1,8 @@
 /** Long runs of calls, the same ones in each run of the test, held against the slow model. */
 public final class RandomRunsTest {
-    private static final int RUNS = 400;
+    private static final int RUNS = 600;
     private static final int CALLS = 512;
+    private static final int MOST_AT_ONCE = 32;
     private static final int[] ODD = {
         Integer.MIN_VALUE, Integer.MIN_VALUE + 1, -2, 900, 901, Integer.MAX_VALUE - 1, Integer.MAX_VALUE
     };
@@ -10,6 +11,7 @@ public final class RandomRunsTest {
     private SaywhatSeen seen;
     private SlowModel model;
     private int reach;
+    private int made;
     private final StringBuilder calls = new StringBuilder();
 
     public static void main(String[] args) {
@@ -26,7 +28,7 @@ public final class RandomRunsTest {
         reach = run % 4 == 0 ? 60 : run % 4 == 1 ? 150 : run % 4 == 2 ? 300 : 600;
         film(reach);
         int busy = run % 3;
-        for (int i = 0; i < CALLS - 1 && Checks.wrong() == 0; i++) {
+        for (int i = 0; made + MOST_AT_ONCE <= CALLS && Checks.wrong() == 0; i++) {
             one(i < 60 ? 5 + pick(25) : busy == 0 ? pick(60) : busy == 1 ? pick(110) : 5 + pick(105));
         }
         if (Checks.wrong() != 0) {
@@ -64,6 +66,7 @@ public final class RandomRunsTest {
 
     private void same(String call, Checks.Call ours, Checks.Call theirs) {
         calls.append(call).append("; ");
+        made++;
         Checks.due(call, Checks.answerOf(ours), Checks.answerOf(theirs));
     }
 
