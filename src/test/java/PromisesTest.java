@@ -55,7 +55,6 @@ public final class PromisesTest {
         p36Review();
         p37Checksum();
         p38IsSound();
-        examples();
         Checks.end();
     }
 
@@ -1160,40 +1159,5 @@ public final class PromisesTest {
         SaywhatSeen empty = new SaywhatSeen();
         empty.plan();
         due("38 an empty plan", empty.isSound(), true);
-    }
-
-    private static void examples() {
-        SaywhatSeen a = new SaywhatSeen();
-        due("example 1 sound", a.sound('s', 0, 30), 1);
-        due("example 1 fact", a.fact(10, 100, 50, 0, true), 0);
-        due("example 1 version", a.version(0, 12), 1);
-        due("example 1 plan", a.plan(), 1);
-        due("example 1 start", a.start(0), 30);
-        due("example 1 versionOf", a.versionOf(0), 0);
-        due("example 1 weight", a.weight(), 50);
-        SaywhatSeen b = new SaywhatSeen();
-        due("example 2 fact", b.fact(0, 40, 10, 0, true), 0);
-        due("example 2 fact", b.fact(0, 40, 20, 0, true), 1);
-        due("example 2 version", b.version(0, 12), 1);
-        due("example 2 version", b.version(1, 8), 1);
-        due("example 2 plan", b.plan(), 1);
-        due("example 2 weight", b.weight(), 20);
-        due("example 2 loss", b.loss(), 10);
-        due("example 2 planned", b.planned(0), 1);
-        SaywhatSeen c = new SaywhatSeen();
-        due("example 3 sound", c.sound('s', 10, 50), 1);
-        due("example 3 fact", c.fact(60, 90, 5, 0, true), 0);
-        due("example 3 cut", c.cut(20, 10), 0);
-        due("example 3 gapAt", c.gapAt(false, 1, true), 40);
-        due("example 3 insert", c.insert(20, 10), 600);
-        due("example 3 gapAt", c.gapAt(false, 1, true), 50);
-        SaywhatSeen d = new SaywhatSeen();
-        due("example 4 fact", d.fact(0, 90, 5, 0, true), 0);
-        due("example 4 version", d.version(0, 4), 1);
-        due("example 4 live", d.live(), 1);
-        due("example 4 cue", d.cue(0), 10);
-        due("example 4 tick", d.tick(9), 0);
-        due("example 4 speak", d.speak(true), false);
-        due("example 4 told", d.told(0), 'l');
     }
 }
